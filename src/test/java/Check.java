@@ -1,0 +1,68 @@
+/** Counts the answers that are not as due, for one test. */
+final class Check {
+    static final Class<?> INDEX = IndexOutOfBoundsException.class;
+    static final Class<?> ARGUMENT = IllegalArgumentException.class;
+    static final Class<?> STATE = IllegalStateException.class;
+
+    interface Call {
+        Object answer();
+    }
+
+    private final String title;
+    private int asked = 0;
+    private int wrong = 0;
+
+    Check(String title) {
+        this.title = title;
+    }
+
+    void due(String call, long want, long got) {
+        tell(call, Long.toString(want), Long.toString(got));
+    }
+
+    /** Compared to the last bit, since the document reckons its doubles in an order that it tells. */
+    void due(String call, double want, double got) {
+        tell(call, Double.toString(want), Double.toString(got));
+    }
+
+    void due(String call, boolean want, boolean got) {
+        tell(call, Boolean.toString(want), Boolean.toString(got));
+    }
+
+    void due(String call, String want, String got) {
+        tell(call, want, got);
+    }
+
+    /** The class of the exception has to be the very one, so that none of the machine's passes for it. */
+    void refuses(PitHouse x, String call, Class<?> want, Call run) {
+        String before = Snapshot.of(x);
+        String got = outcome(run);
+        tell(call, "throws." + want.getSimpleName(), got);
+        if (!before.equals(Snapshot.of(x))) {
+            tell(call + " changes nothing", "the same", "another state");
+        }
+    }
+
+    static String outcome(Call run) {
+        try {
+            return String.valueOf(run.answer());
+        } catch (RuntimeException e) {
+            return "throws." + e.getClass().getSimpleName();
+        }
+    }
+
+    void finish() {
+        System.out.println(title + ": " + asked + " asked, " + wrong + " not as due");
+        if (wrong > 0 || asked == 0) {
+            System.exit(1);
+        }
+    }
+
+    private void tell(String call, String want, String got) {
+        asked++;
+        if (!want.equals(got)) {
+            wrong++;
+            System.out.println(title + ": " + call + " answered " + got + ", due is " + want);
+        }
+    }
+}
