@@ -9,7 +9,7 @@ public final class PitHouse {
     private static final int NONE = -1;
 
     private static final int SECTORS = 240;
-    private static final int TURNS = 30;
+    private static final int SPIRAL_TURNS = 30;
     private static final int LEAD = 4;
     private static final int GAP = 2;
     private static final int END = 2;
@@ -144,7 +144,7 @@ public final class PitHouse {
     // ---- what happens to it
 
     public int scratch(int from, int to, int angle, int end) throws IllegalArgumentException {
-        if (from < 0 || from >= TURNS || to < from || to >= TURNS) {
+        if (from < 0 || from >= SPIRAL_TURNS || to < from || to >= SPIRAL_TURNS) {
             throw new IllegalArgumentException("no such turns");
         }
         if (angle < 0 || angle > 359 || end < angle || end > 359) {
@@ -653,9 +653,11 @@ public final class PitHouse {
         }
 
         void eraseColumn(int column, int lastRow, Bench bench) {
+            int set = 0;
             for (int row = 0; row <= lastRow; row++) {
-                block.erase(1 << (4 * row + column));
+                set |= 1 << (4 * row + column);
             }
+            block.erase(set);
             reckon(bench);
         }
 

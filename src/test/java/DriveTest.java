@@ -138,7 +138,8 @@ public final class DriveTest {
         c.due("24 nothing is changed", 0.0, x.clock());
         c.due("24 nor the head", 0, x.many(8));
         c.due("24 nor the READS", 0, x.many(9));
-        double alone = x.wouldTake(239, 1);
+        double alone = 9.25 + 211.5 / 90.0 + 0.5 / 1.5;
+        c.due("24 the last one", alone, x.wouldTake(239, 1));
         c.due("24 beyond 239", alone, x.wouldTake(239, 40));
         x.read(230);
         double before = x.clock();

@@ -58,6 +58,9 @@ public final class HarmTest {
         c.due("9 a second column", 8, x.ofSector(7, 2));
         c.due("9 LOST with two columns", 2, x.ofSector(7, 3));
         c.due("9 the other one is not", 0, x.ofSector(6, 3));
+        PitHouse y = written(1, 14);
+        y.scratch(1, 1, 200, 270);
+        c.due("9 70 degrees are the row 0 alone", 1, y.ofSector(10, 2));
     }
 
     private static void scratchRefuses() {

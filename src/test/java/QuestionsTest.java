@@ -61,10 +61,10 @@ public final class QuestionsTest {
     /** The numbers were reckoned by another program, bit by bit. */
     private static void marks() {
         PitHouse x = opened(1, 9);
-        long[] nibbles = {0, MOST, 123456789L, 0x123456789L, 0xFEDCBA987L};
-        int[] turns = {37, 37, 34, 36, 39};
-        int[] dsv = {-4, 0, -2, -16, -4};
-        int[] farthest = {10, 7, 10, 19, 13};
+        long[] nibbles = {0, 0, 123456789L, 0x123456789L, 0xFEDCBA987L};
+        int[] turns = {37, 39, 34, 36, 39};
+        int[] dsv = {-4, 2, -2, -16, -4};
+        int[] farthest = {10, 8, 10, 19, 13};
         for (int k = 0; k < nibbles.length; k++) {
             int s = x.write(0, nibbles[k]);
             c.due("17 TURNS of " + s, turns[k], x.ofSector(s, 4));
@@ -124,6 +124,12 @@ public final class QuestionsTest {
         c.due("18 MENDED and LOST", -1, x.nibbles(7, true));
         c.due("18 LOST, not MENDED: the NIBBLE 0 and MASKS", 0xC00B00607L, x.nibbles(7, false));
         c.due("18 MENDING is on a copy", 8, x.ofSector(7, 2));
+        PitHouse y = opened(1, 4);
+        y.write(0, 0);
+        y.rot(6);
+        y.rot(11);
+        c.due("18 two WRONG ones, BAD", 1, y.ofSector(6, 3));
+        c.due("18 none of two is righted", 0x0000C0007L, y.nibbles(6, true));
     }
 
     private static void nibblesRefuse() {

@@ -6,6 +6,7 @@ public final class WouldTest {
         mendsErased();
         mendsRowsFirst();
         sumsInDataAlone();
+        sumsModulo251();
         mendRefuses();
         digests();
         c.finish();
@@ -65,6 +66,41 @@ public final class WouldTest {
         data.rot(6);
         c.due("25 DATA has one", 1, data.wouldMend(6, corners));
         c.due("25 it fits otherwise", 0, data.wouldMend(6, 0));
+    }
+
+    /** ROT can make any PLACE of the SECTOR 60 any value, so its BLOCK may become another EVEN one. */
+    private static PitHouse turnedInto(long nibbles) {
+        PitHouse x = new PitHouse();
+        x.session();
+        x.track(1, 40);
+        x.track(1, 40);
+        while (x.ofSector(60, 1) == 0) {
+            x.write(1, 0);
+        }
+        PitHouse other = new PitHouse();
+        other.session();
+        other.track(1, 40);
+        other.track(1, 40);
+        while (other.ofSector(60, 1) == 0) {
+            other.write(1, nibbles);
+        }
+        for (int place = 0; place < 16; place++) {
+            int by = x.place(60, place) ^ other.place(60, place);
+            for (int r = 0; r < 1000 && x.place(60, place) != other.place(60, place); r++) {
+                if ((60 * 7 + r) % 16 == place && r % 15 + 1 == by) {
+                    x.rot(r);
+                }
+            }
+        }
+        return x;
+    }
+
+    private static void sumsModulo251() {
+        PitHouse fits = turnedInto(0xFE0001000L);
+        c.due("25 another one comes out", 0xFE0001000L, fits.nibbles(60, true));
+        c.due("25 9 times 15, 8 times 14 and 4 are 251", 0, fits.wouldMend(60, 0));
+        PitHouse fitsNot = turnedInto(0xFE0001001L);
+        c.due("25 252 is not 0", 1, fitsNot.wouldMend(60, 0));
     }
 
     private static void mendRefuses() {
