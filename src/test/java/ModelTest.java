@@ -144,7 +144,8 @@ public final class ModelTest {
         int to = from + near(draw(3) == 0 ? 10 : 3);
         int angle = near(360);
         int end = angle + near(360 - Math.max(0, Math.min(angle, 359)));
-        both(where + "scratch", "scratch", () -> m.scratch(from, to, angle, end), () -> x.scratch(from, to, angle, end));
+        both(where + "scratch", "scratch",
+            () -> m.scratch(from, to, angle, end), () -> x.scratch(from, to, angle, end));
     }
 
     private void askDrive(String where, String name, int a, int b, int t) {
