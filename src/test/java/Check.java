@@ -34,11 +34,11 @@ final class Check {
     }
 
     /** The class of the exception has to be the very one, so that none of the machine's passes for it. */
-    void refuses(PitHouse x, String call, Class<?> want, Call run) {
-        String before = Snapshot.of(x);
+    void refuses(Disc x, String call, Class<?> want, Call run) {
+        String before = x.snapshot();
         String got = outcome(run);
         tell(call, "throws." + want.getSimpleName(), got);
-        if (!before.equals(Snapshot.of(x))) {
+        if (!before.equals(x.snapshot())) {
             tell(call + " changes nothing", "the same", "another state");
         }
     }

@@ -16,7 +16,7 @@ public final class DriveTest {
     }
 
     private static void reads() {
-        PitHouse x = new PitHouse();
+        Disc x = new Disc();
         c.due("13 BLANK", 2, x.read(0));
         c.due("13 no SEEK, 0.5 by 1", 0.5, x.clock());
         c.due("13 the head is ahead of the next", 1, x.many(8));
@@ -38,7 +38,7 @@ public final class DriveTest {
     }
 
     private static void readStates() {
-        PitHouse x = new PitHouse();
+        Disc x = new Disc();
         x.session();
         x.track(1, 3);
         x.write(0, 1);
@@ -59,7 +59,7 @@ public final class DriveTest {
     }
 
     private static void readRefuses() {
-        PitHouse x = new PitHouse();
+        Disc x = new Disc();
         c.refuses(x, "13 -1", Check.INDEX, () -> x.read(-1));
         c.refuses(x, "13 240", Check.INDEX, () -> x.read(240));
         x.tray(true);
@@ -69,7 +69,7 @@ public final class DriveTest {
     }
 
     private static void seeks() {
-        PitHouse x = new PitHouse();
+        Disc x = new Disc();
         c.due("14 it is there", 0.0, x.seek(0));
         c.due("14 60 less 180, and 360", 2.0 + 240.0 / 90.0, x.seek(1));
         c.due("14 300 less 180", 2.0 + 120.0 / 90.0, x.seek(5));
@@ -87,14 +87,21 @@ public final class DriveTest {
 
     /** PitHouse may not use % on doubles, so all ways are compared with it. */
     private static void seeksLikeRemainder() {
+        int[] turns = new int[240];
+        double[] angles = new double[240];
+        Disc asked = new Disc();
+        for (int s = 0; s < 240; s++) {
+            turns[s] = asked.ofSector(s, 7);
+            angles[s] = asked.angle(s);
+        }
         for (int from = 0; from < 240; from++) {
-            PitHouse x = new PitHouse();
+            Disc x = new Disc();
             if (from > 0) {
                 x.read(from - 1);
             }
             for (int to = 0; to < 240; to++) {
-                double base = 2.0 + 0.25 * Math.abs(x.ofSector(to, 7) - x.ofSector(from, 7));
-                double rest = (x.angle(to) - x.angle(from) - 90.0 * base) % 360.0;
+                double base = 2.0 + 0.25 * Math.abs(turns[to] - turns[from]);
+                double rest = (angles[to] - angles[from] - 90.0 * base) % 360.0;
                 if (rest < 0) {
                     rest += 360.0;
                 }
@@ -105,7 +112,7 @@ public final class DriveTest {
     }
 
     private static void angles() {
-        PitHouse x = new PitHouse();
+        Disc x = new Disc();
         c.due("16 the first", 0.0, x.angle(0));
         c.due("16 6 in a turn", 60.0, x.angle(7));
         c.due("16 the last of them", 300.0, x.angle(59));
@@ -118,7 +125,7 @@ public final class DriveTest {
     }
 
     private static void clocks() {
-        PitHouse x = new PitHouse();
+        Disc x = new Disc();
         c.due("15 at first", 0.0, x.clock());
         x.session();
         x.track(0, 3);
@@ -131,7 +138,7 @@ public final class DriveTest {
     }
 
     private static void takes() {
-        PitHouse x = new PitHouse();
+        Disc x = new Disc();
         c.due("24 one", 0.5, x.wouldTake(0, 1));
         c.due("24 six", 3.0, x.wouldTake(0, 6));
         c.due("24 with a SEEK", 3.0, x.wouldTake(3, 2));
@@ -154,7 +161,7 @@ public final class DriveTest {
     }
 
     private static void takeRefuses() {
-        PitHouse x = new PitHouse();
+        Disc x = new Disc();
         c.refuses(x, "24 -1", Check.INDEX, () -> x.wouldTake(-1, 1));
         c.refuses(x, "24 240", Check.INDEX, () -> x.wouldTake(240, 1));
         c.refuses(x, "24 240 ahead of 0", Check.INDEX, () -> x.wouldTake(240, 0));

@@ -23,15 +23,15 @@ public final class QuestionsTest {
         c.finish();
     }
 
-    private static PitHouse opened(int mode, int sectors) {
-        PitHouse x = new PitHouse();
+    private static Disc opened(int mode, int sectors) {
+        Disc x = new Disc();
         x.session();
         x.track(mode, sectors);
         return x;
     }
 
     private static void sectors() {
-        PitHouse x = opened(1, 3);
+        Disc x = opened(1, 3);
         x.write(0, 5);
         x.starve(0);
         c.due("17 of no TRACK: LEAD", -1, x.ofSector(3, 0));
@@ -60,7 +60,7 @@ public final class QuestionsTest {
 
     /** The numbers were reckoned by another program, bit by bit. */
     private static void marks() {
-        PitHouse x = opened(1, 9);
+        Disc x = opened(1, 9);
         long[] nibbles = {0, 0, 123456789L, 0x123456789L, 0xFEDCBA987L};
         int[] turns = {37, 39, 34, 36, 39};
         int[] dsv = {-4, 2, -2, -16, -4};
@@ -81,7 +81,7 @@ public final class QuestionsTest {
     }
 
     private static void sectorRefuses() {
-        PitHouse x = opened(1, 3);
+        Disc x = opened(1, 3);
         c.refuses(x, "17 -1", Check.INDEX, () -> x.ofSector(-1, 0));
         c.refuses(x, "17 240", Check.INDEX, () -> x.ofSector(240, 0));
         c.refuses(x, "17 240 ahead of what", Check.INDEX, () -> x.ofSector(240, 9));
@@ -91,7 +91,7 @@ public final class QuestionsTest {
     }
 
     private static void positions() {
-        PitHouse x = new PitHouse();
+        Disc x = new Disc();
         int[] sectors = {0, 5, 6, 59, 60, 67, 68, 139, 140, 149, 150, 179, 180, 239};
         int[] turns = {0, 0, 1, 9, 10, 10, 11, 19, 20, 20, 21, 23, 24, 29};
         int[] positions = {0, 10, 11, 114, 1000, 1012, 1013, 2034, 2040, 2054, 2060, 2114, 0, 114};
@@ -102,7 +102,7 @@ public final class QuestionsTest {
     }
 
     private static void nibblesComeOut() {
-        PitHouse x = opened(1, 4);
+        Disc x = opened(1, 4);
         c.due("18 BLANK", -1, x.nibbles(6, false));
         c.due("18 BLANK, MENDED", -1, x.nibbles(6, true));
         x.write(0, 0x123456789L);
@@ -124,7 +124,7 @@ public final class QuestionsTest {
         c.due("18 MENDED and LOST", -1, x.nibbles(7, true));
         c.due("18 LOST, not MENDED: the NIBBLE 0 and MASKS", 0xC00B00607L, x.nibbles(7, false));
         c.due("18 MENDING is on a copy", 8, x.ofSector(7, 2));
-        PitHouse y = opened(1, 4);
+        Disc y = opened(1, 4);
         y.write(0, 0);
         y.rot(6);
         y.rot(11);
@@ -133,13 +133,13 @@ public final class QuestionsTest {
     }
 
     private static void nibblesRefuse() {
-        PitHouse x = opened(1, 4);
+        Disc x = opened(1, 4);
         c.refuses(x, "18 -1", Check.INDEX, () -> x.nibbles(-1, true));
         c.refuses(x, "18 240", Check.INDEX, () -> x.nibbles(240, false));
     }
 
     private static void places() {
-        PitHouse x = opened(1, 4);
+        Disc x = opened(1, 4);
         c.due("19 BLANK", -1, x.place(6, 0));
         x.write(0, 0);
         c.due("19 MASK 0", 13, x.place(6, 0));
@@ -156,7 +156,7 @@ public final class QuestionsTest {
     }
 
     private static void tracks() {
-        PitHouse x = new PitHouse();
+        Disc x = new Disc();
         x.session();
         x.end();
         x.session();
@@ -180,7 +180,7 @@ public final class QuestionsTest {
     }
 
     private static void trackRefuses() {
-        PitHouse x = new PitHouse();
+        Disc x = new Disc();
         c.refuses(x, "20 no TRACK", Check.INDEX, () -> x.ofTrack(0, 0));
         x.session();
         x.track(0, 4);
@@ -192,7 +192,7 @@ public final class QuestionsTest {
     }
 
     private static void files() {
-        PitHouse x = opened(1, 5);
+        Disc x = opened(1, 5);
         x.write(0, 1);
         x.write(0, 2);
         x.file(3, 6, 4);
@@ -220,7 +220,7 @@ public final class QuestionsTest {
     }
 
     private static void fileRefuses() {
-        PitHouse x = new PitHouse();
+        Disc x = new Disc();
         c.refuses(x, "21 no SESSION", Check.INDEX, () -> x.ofFile(0, 0, 0));
         x.session();
         c.refuses(x, "21 FILE -1", Check.INDEX, () -> x.ofFile(-1, 0, 0));
@@ -233,7 +233,7 @@ public final class QuestionsTest {
     }
 
     private static void plays() {
-        PitHouse x = opened(0, 6);
+        Disc x = opened(0, 6);
         x.write(0, 0);
         x.write(0, MOST);
         x.starve(0);
@@ -249,7 +249,7 @@ public final class QuestionsTest {
     }
 
     private static void playsNeighbours() {
-        PitHouse x = opened(0, 4);
+        Disc x = opened(0, 4);
         x.starve(0);
         x.write(0, MOST);
         x.write(0, 0);
@@ -267,20 +267,20 @@ public final class QuestionsTest {
     }
 
     private static void playRefuses() {
-        PitHouse x = opened(0, 3);
+        Disc x = opened(0, 3);
         x.track(1, 3);
         c.refuses(x, "22 -1", Check.INDEX, () -> x.play(-1));
         c.refuses(x, "22 240", Check.INDEX, () -> x.play(240));
         c.refuses(x, "22 LEAD", Check.ARGUMENT, () -> x.play(0));
         c.refuses(x, "22 GAP", Check.ARGUMENT, () -> x.play(9));
         c.refuses(x, "22 DATA", Check.ARGUMENT, () -> x.play(11));
-        PitHouse y = opened(0, 3);
+        Disc y = opened(0, 3);
         y.close(0);
         c.refuses(y, "22 given back", Check.ARGUMENT, () -> y.play(6));
     }
 
     private static void many() {
-        PitHouse x = opened(1, 9);
+        Disc x = opened(1, 9);
         for (int k = 0; k < 6; k++) {
             x.write(0, k);
         }
@@ -301,7 +301,7 @@ public final class QuestionsTest {
     }
 
     private static void manyRefuses() {
-        PitHouse x = opened(1, 3);
+        Disc x = opened(1, 3);
         c.refuses(x, "23 -1", Check.ARGUMENT, () -> x.many(-1));
         c.refuses(x, "23 13", Check.ARGUMENT, () -> x.many(13));
         c.refuses(x, "23 least", Check.ARGUMENT, () -> x.many(Integer.MIN_VALUE));

@@ -12,8 +12,8 @@ public final class WouldTest {
         c.finish();
     }
 
-    private static PitHouse written(int mode) {
-        PitHouse x = new PitHouse();
+    private static Disc written(int mode) {
+        Disc x = new Disc();
         x.session();
         x.track(mode, 4);
         x.write(0, 0);
@@ -22,7 +22,7 @@ public final class WouldTest {
     }
 
     private static void mendsErased() {
-        PitHouse x = written(1);
+        Disc x = written(1);
         c.due("25 none", 0, x.wouldMend(6, 0));
         for (int place = 0; place < 16; place++) {
             c.due("25 the PLACE " + place, 0, x.wouldMend(7, 1 << place));
@@ -43,7 +43,7 @@ public final class WouldTest {
     }
 
     private static void mendsRowsFirst() {
-        PitHouse x = written(0);
+        Disc x = written(0);
         x.rot(0);
         c.due("25 a WRONG one", 0, x.wouldMend(6, 0));
         c.due("25 the WRONG one itself", 0, x.wouldMend(6, 1 << 10));
@@ -59,25 +59,25 @@ public final class WouldTest {
     /** Rightly EVEN, but four NIBBLES became others: the SUM alone can tell. */
     private static void sumsInDataAlone() {
         int corners = 1 << 1 | 1 << 4 | 1 << 5;
-        PitHouse sound = written(0);
+        Disc sound = written(0);
         sound.rot(6);
         c.due("25 SOUND has no SUM", 0, sound.wouldMend(6, corners));
-        PitHouse data = written(1);
+        Disc data = written(1);
         data.rot(6);
         c.due("25 DATA has one", 1, data.wouldMend(6, corners));
         c.due("25 it fits otherwise", 0, data.wouldMend(6, 0));
     }
 
     /** ROT can make any PLACE of the SECTOR 60 any value, so its BLOCK may become another EVEN one. */
-    private static PitHouse turnedInto(long nibbles) {
-        PitHouse x = new PitHouse();
+    private static Disc turnedInto(long nibbles) {
+        Disc x = new Disc();
         x.session();
         x.track(1, 40);
         x.track(1, 40);
         while (x.ofSector(60, 1) == 0) {
             x.write(1, 0);
         }
-        PitHouse other = new PitHouse();
+        Disc other = new Disc();
         other.session();
         other.track(1, 40);
         other.track(1, 40);
@@ -86,7 +86,7 @@ public final class WouldTest {
         }
         for (int place = 0; place < 16; place++) {
             int by = x.place(60, place) ^ other.place(60, place);
-            for (int r = 0; r < 1000 && x.place(60, place) != other.place(60, place); r++) {
+            for (int r = 0; r < 240; r++) {
                 if ((60 * 7 + r) % 16 == place && r % 15 + 1 == by) {
                     x.rot(r);
                 }
@@ -96,15 +96,15 @@ public final class WouldTest {
     }
 
     private static void sumsModulo251() {
-        PitHouse fits = turnedInto(0xFE0001000L);
+        Disc fits = turnedInto(0xFE0001000L);
         c.due("25 another one comes out", 0xFE0001000L, fits.nibbles(60, true));
         c.due("25 9 times 15, 8 times 14 and 4 are 251", 0, fits.wouldMend(60, 0));
-        PitHouse fitsNot = turnedInto(0xFE0001001L);
+        Disc fitsNot = turnedInto(0xFE0001001L);
         c.due("25 252 is not 0", 1, fitsNot.wouldMend(60, 0));
     }
 
     private static void mendRefuses() {
-        PitHouse x = written(1);
+        Disc x = written(1);
         c.refuses(x, "25 -1", Check.INDEX, () -> x.wouldMend(-1, 0));
         c.refuses(x, "25 240", Check.INDEX, () -> x.wouldMend(240, 0));
         c.refuses(x, "25 240 ahead of the set", Check.INDEX, () -> x.wouldMend(240, -1));
@@ -114,8 +114,8 @@ public final class WouldTest {
     }
 
     private static void digests() {
-        c.due("26 a new one", -8771326024716431228L, new PitHouse().digest());
-        PitHouse x = written(1);
+        c.due("26 a new one", -8771326024716431228L, new Disc().digest());
+        Disc x = written(1);
         c.due("26 WRITTEN", summed(x), x.digest());
         x.file(2, 6, 3);
         x.rot(0);
@@ -135,7 +135,7 @@ public final class WouldTest {
         c.due("26 another state", false, before == x.digest());
     }
 
-    private static long summed(PitHouse x) {
+    private static long summed(Disc x) {
         long d = 9600;
         for (int what = 0; what <= 12; what++) {
             d = d * 31 + x.many(what);
@@ -145,11 +145,13 @@ public final class WouldTest {
                 d = d * 31 + x.ofTrack(t, what);
             }
         }
-        for (int s = 0; s < 240; s++) {
-            for (int what = 2; what <= 6 && x.ofSector(s, 1) == 1; what++) {
+        int next = x.many(2);
+        for (int s = 0; s < next; s++) {
+            boolean isWritten = x.ofSector(s, 1) == 1;
+            for (int what = 2; what <= 6 && isWritten; what++) {
                 d = d * 31 + x.ofSector(s, what);
             }
-            d = x.ofSector(s, 1) == 1 ? d * 31 + x.nibbles(s, true) : d;
+            d = isWritten ? d * 31 + x.nibbles(s, true) : d;
         }
         for (int f = 0; f < 10; f++) {
             for (int s = 0; s < x.many(0); s++) {

@@ -27,24 +27,25 @@ public final class WritingTest {
     }
 
     private static void newObject() {
-        PitHouse x = new PitHouse();
+        Disc x = new Disc();
         int[] many = {0, 0, 0, 4, 0, 0, 0, 0, 0, 0, 0, 0, 0};
         for (int what = 0; what < many.length; what++) {
             c.due("1 many " + what, many[what], x.many(what));
         }
         c.due("1 clock", 0.0, x.clock());
+        Disc asked = new Disc();
         for (int s = 0; s < 240; s++) {
-            c.due("1 of no TRACK " + s, -1, x.ofSector(s, 0));
-            c.due("1 BLANK " + s, 0, x.ofSector(s, 1));
+            c.due("1 of no TRACK " + s, -1, asked.ofSector(s, 0));
+            c.due("1 BLANK " + s, 0, asked.ofSector(s, 1));
             c.due("1 LOST " + s, 2, x.ofSector(s, 3));
         }
-        PitHouse other = new PitHouse();
+        Disc other = new Disc();
         other.session();
         c.due("1 objects have nothing in common", 0, x.many(0));
     }
 
     private static void sessionOpens() {
-        PitHouse x = new PitHouse();
+        Disc x = new Disc();
         c.due("2 the first", 0, x.session());
         c.due("2 NEXT behind the LEAD", 4, x.many(2));
         c.due("2 a CALIBRATION is used", 3, x.many(3));
@@ -59,7 +60,7 @@ public final class WritingTest {
     }
 
     private static void sessionRefuses() {
-        PitHouse x = new PitHouse();
+        Disc x = new Disc();
         x.session();
         c.refuses(x, "2 one is open", Check.STATE, x::session);
         x.end();
@@ -70,7 +71,7 @@ public final class WritingTest {
         c.due("2 a CALIBRATION is left", 1, x.many(3));
         c.refuses(x, "2 there are 3", Check.STATE, x::session);
 
-        PitHouse starved = new PitHouse();
+        Disc starved = new Disc();
         starved.session();
         starved.track(0, 5);
         for (int k = 0; k < 3; k++) {
@@ -81,8 +82,8 @@ public final class WritingTest {
         c.refuses(starved, "2 no CALIBRATION", Check.STATE, starved::session);
     }
 
-    private static PitHouse endedAt(int next) {
-        PitHouse x = new PitHouse();
+    private static Disc endedAt(int next) {
+        Disc x = new Disc();
         x.session();
         for (int t = 0; t < 5; t++) {
             x.track(0, 40);
@@ -100,18 +101,18 @@ public final class WritingTest {
     }
 
     private static void sessionNeedsFourSectors() {
-        PitHouse fits = endedAt(236);
+        Disc fits = endedAt(236);
         c.due("2 just 4 SECTORS are left", 1, fits.session());
         c.due("2 NEXT is at the end", 240, fits.many(2));
         c.refuses(fits, "7 none is left for the END", Check.STATE, fits::end);
-        PitHouse full = endedAt(237);
+        Disc full = endedAt(237);
         c.refuses(full, "2 3 SECTORS are left", Check.STATE, full::session);
-        PitHouse none = endedAt(240);
+        Disc none = endedAt(240);
         c.refuses(none, "2 no SECTOR is left", Check.STATE, none::session);
     }
 
     private static void trackOpens() {
-        PitHouse x = new PitHouse();
+        Disc x = new Disc();
         x.session();
         c.due("3 the first SECTOR", 6, x.track(0, 1));
         c.due("3 NEXT", 7, x.many(2));
@@ -126,7 +127,7 @@ public final class WritingTest {
     }
 
     private static void trackRefuses() {
-        PitHouse x = new PitHouse();
+        Disc x = new Disc();
         c.refuses(x, "3 no SESSION", Check.STATE, () -> x.track(0, 1));
         c.refuses(x, "3 mode ahead of no SESSION", Check.ARGUMENT, () -> x.track(2, 1));
         x.session();
@@ -142,7 +143,7 @@ public final class WritingTest {
     }
 
     private static void eightTracks() {
-        PitHouse x = new PitHouse();
+        Disc x = new Disc();
         x.session();
         for (int t = 0; t < 4; t++) {
             x.track(0, 1);
@@ -160,7 +161,7 @@ public final class WritingTest {
     }
 
     private static void trackNeedsItsGap() {
-        PitHouse x = new PitHouse();
+        Disc x = new Disc();
         x.session();
         for (int t = 0; t < 5; t++) {
             x.track(0, 40);
@@ -176,7 +177,7 @@ public final class WritingTest {
     }
 
     private static void writeWrites() {
-        PitHouse x = new PitHouse();
+        Disc x = new Disc();
         x.session();
         x.track(1, 2);
         x.track(0, 2);
@@ -195,7 +196,7 @@ public final class WritingTest {
     }
 
     private static void writeRefuses() {
-        PitHouse x = new PitHouse();
+        Disc x = new Disc();
         c.refuses(x, "4 no TRACK", Check.INDEX, () -> x.write(0, 0));
         x.session();
         x.track(1, 1);
@@ -220,7 +221,7 @@ public final class WritingTest {
     }
 
     private static void starves() {
-        PitHouse x = new PitHouse();
+        Disc x = new Disc();
         x.session();
         x.track(1, 3);
         x.write(0, 5);
@@ -235,7 +236,7 @@ public final class WritingTest {
     }
 
     private static void starveRefuses() {
-        PitHouse x = new PitHouse();
+        Disc x = new Disc();
         c.refuses(x, "5 no TRACK", Check.INDEX, () -> x.starve(0));
         x.session();
         x.track(1, 1);
@@ -254,7 +255,7 @@ public final class WritingTest {
     }
 
     private static void closeGivesBack() {
-        PitHouse x = new PitHouse();
+        Disc x = new Disc();
         x.session();
         x.track(1, 10);
         x.track(0, 10);
@@ -284,7 +285,7 @@ public final class WritingTest {
     }
 
     private static void closeRefuses() {
-        PitHouse x = new PitHouse();
+        Disc x = new Disc();
         c.refuses(x, "6 no TRACK", Check.INDEX, () -> x.close(0));
         x.session();
         x.track(1, 10);
@@ -295,7 +296,7 @@ public final class WritingTest {
     }
 
     private static void endCloses() {
-        PitHouse x = new PitHouse();
+        Disc x = new Disc();
         x.session();
         c.due("7 without TRACKS", 6, x.end());
         c.due("7 NEXT", 6, x.many(2));
@@ -310,7 +311,7 @@ public final class WritingTest {
     }
 
     private static void endRefuses() {
-        PitHouse x = new PitHouse();
+        Disc x = new Disc();
         c.refuses(x, "7 none is open", Check.STATE, x::end);
         x.session();
         x.track(0, 3);
@@ -321,7 +322,7 @@ public final class WritingTest {
         x.end();
         c.refuses(x, "7 it is CLOSED", Check.STATE, x::end);
 
-        PitHouse full = new PitHouse();
+        Disc full = new Disc();
         full.session();
         for (int t = 0; t < 5; t++) {
             full.track(0, 40);
@@ -340,7 +341,7 @@ public final class WritingTest {
     }
 
     private static void fileTells() {
-        PitHouse x = new PitHouse();
+        Disc x = new Disc();
         x.session();
         x.track(0, 5);
         x.track(1, 30);
@@ -362,7 +363,7 @@ public final class WritingTest {
     }
 
     private static void fileRefuses() {
-        PitHouse x = new PitHouse();
+        Disc x = new Disc();
         c.refuses(x, "8 no TRACK ahead of no SESSION", Check.ARGUMENT, () -> x.file(0, 6, 1));
         x.session();
         x.track(0, 5);
@@ -391,7 +392,7 @@ public final class WritingTest {
     }
 
     private static void fileStaysTold() {
-        PitHouse x = new PitHouse();
+        Disc x = new Disc();
         x.session();
         x.track(1, 10);
         x.write(0, 1);
