@@ -9,11 +9,21 @@ final class Check {
     }
 
     private final String title;
+    private String about = "";
     private int asked = 0;
     private int wrong = 0;
 
     Check(String title) {
         this.title = title;
+    }
+
+    /** What the next calls are about is told ahead of each that is not as due. */
+    void about(String sentence) {
+        about = sentence.isEmpty() ? "" : "[" + sentence + "] ";
+    }
+
+    int asked() {
+        return asked;
     }
 
     void due(String call, long want, long got) {
@@ -62,7 +72,7 @@ final class Check {
         asked++;
         if (!want.equals(got)) {
             wrong++;
-            System.out.println(title + ": " + call + " answered " + got + ", due is " + want);
+            System.out.println(title + ": " + about + call + " answered " + got + ", due is " + want);
         }
     }
 }

@@ -1,3 +1,4 @@
+import java.math.BigInteger;
 import java.util.ArrayList;
 import java.util.List;
 import java.util.function.Function;
@@ -35,6 +36,41 @@ final class Disc {
         return all;
     }
 
+    /** A SESSION is open, with one TRACK in it, from the SECTOR 6 on. */
+    static Disc opened(int mode, int sectors) {
+        Disc x = new Disc();
+        x.session();
+        x.track(mode, sectors);
+        return x;
+    }
+
+    /** All SECTORS of its one TRACK are WRITTEN. */
+    static Disc written(int mode, int sectors) {
+        Disc x = opened(mode, sectors);
+        for (int k = 0; k < sectors; k++) {
+            x.write(0, 1000003L * k);
+        }
+        return x;
+    }
+
+    /** NEXT is 217 to 240, the SESSION is open yet, and all its 6 TRACKS are CLOSED. */
+    static Disc filledTo(int next) {
+        Disc x = new Disc();
+        x.session();
+        for (int t = 0; t < 5; t++) {
+            x.track(0, 40);
+        }
+        x.track(1, next - 216);
+        for (int t = 0; t < 5; t++) {
+            x.close(t);
+        }
+        for (int s = 216; s < next; s++) {
+            x.write(5, 0);
+        }
+        x.close(5);
+        return x;
+    }
+
     /** Answers to all that can be asked (the digest stands for what is asked of the DISC, TRACKS and FILES). */
     String snapshot() {
         StringBuilder all = new StringBuilder();
@@ -58,6 +94,42 @@ final class Disc {
             Check.outcome(() -> call.apply(twin));
         }
         return twin;
+    }
+
+    /** The digest by its sentence, in numbers that never wrap around, cut to 64 bits at the end. */
+    long reckonedDigest() {
+        BigInteger d = BigInteger.valueOf(9600);
+        for (int what = 0; what <= 12; what++) {
+            d = with(d, many(what));
+        }
+        int tracks = many(1);
+        for (int t = 0; t < tracks; t++) {
+            for (int what = 0; what <= 7; what++) {
+                d = with(d, ofTrack(t, what));
+            }
+        }
+        int next = many(2);
+        for (int s = 0; s < next; s++) {
+            if (ofSector(s, 1) == 1) {
+                for (int what = 2; what <= 6; what++) {
+                    d = with(d, ofSector(s, what));
+                }
+                d = with(d, nibbles(s, true));
+            }
+        }
+        int sessions = many(0);
+        for (int f = 0; f < 10; f++) {
+            for (int s = 0; s < sessions; s++) {
+                for (int what = 0; what <= 2; what++) {
+                    d = with(d, ofFile(f, s, what));
+                }
+            }
+        }
+        return with(d, (long) clock()).longValue();
+    }
+
+    private static BigInteger with(BigInteger d, long v) {
+        return d.multiply(BigInteger.valueOf(31)).add(BigInteger.valueOf(v));
     }
 
     private <T> T ask(Function<PitHouse, T> call) {

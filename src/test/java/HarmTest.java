@@ -14,18 +14,8 @@ public final class HarmTest {
         c.finish();
     }
 
-    private static Disc written(int mode, int sectors) {
-        Disc x = new Disc();
-        x.session();
-        x.track(mode, sectors);
-        for (int k = 0; k < sectors; k++) {
-            x.write(0, 1000003L * k);
-        }
-        return x;
-    }
-
     private static void scratchMeets() {
-        Disc x = written(1, 14);
+        Disc x = Disc.written(1, 14);
         c.due("9 from 6 to 19", 14, x.scratch(0, 29, 0, 359));
         c.due("9 the turn 1", 6, x.scratch(1, 1, 0, 359));
         c.due("9 two of its turns", 8, x.scratch(2, 3, 0, 300));
@@ -38,7 +28,7 @@ public final class HarmTest {
     }
 
     private static void scratchErases() {
-        Disc x = written(1, 14);
+        Disc x = Disc.written(1, 14);
         x.scratch(1, 1, 0, 89);
         c.due("9 the row 0 alone", 1, x.ofSector(6, 2));
         c.due("9 in the column 1", -1, x.place(6, 1));
@@ -58,13 +48,13 @@ public final class HarmTest {
         c.due("9 a second column", 8, x.ofSector(7, 2));
         c.due("9 LOST with two columns", 2, x.ofSector(7, 3));
         c.due("9 the other one is not", 0, x.ofSector(6, 3));
-        Disc y = written(1, 14);
+        Disc y = Disc.written(1, 14);
         y.scratch(1, 1, 200, 270);
         c.due("9 70 degrees are the row 0 alone", 1, y.ofSector(10, 2));
     }
 
     private static void scratchRefuses() {
-        Disc x = written(1, 3);
+        Disc x = Disc.written(1, 3);
         c.refuses(x, "9 from -1", Check.ARGUMENT, () -> x.scratch(-1, 1, 0, 0));
         c.refuses(x, "9 from 30", Check.ARGUMENT, () -> x.scratch(30, 30, 0, 0));
         c.refuses(x, "9 to ahead of from", Check.ARGUMENT, () -> x.scratch(2, 1, 0, 0));
@@ -79,7 +69,7 @@ public final class HarmTest {
     }
 
     private static void rotChanges() {
-        Disc x = written(1, 14);
+        Disc x = Disc.written(1, 14);
         int was = x.place(6, 10);
         c.due("10 by 2: from 6 to 18", 7, x.rot(0));
         c.due("10 the PLACE 42 modulo 16", was ^ 1, x.place(6, 10));
@@ -104,7 +94,7 @@ public final class HarmTest {
     }
 
     private static void rotSparesErased() {
-        Disc x = written(1, 1);
+        Disc x = Disc.written(1, 1);
         x.scratch(1, 1, 0, 0);
         c.due("10 the PLACE 42 and 55 modulo 16 is ERASED", 0, x.rot(55));
         c.due("10 it stays ERASED", -1, x.place(6, 1));
@@ -113,7 +103,7 @@ public final class HarmTest {
     }
 
     private static void rotRefuses() {
-        Disc x = written(1, 3);
+        Disc x = Disc.written(1, 3);
         c.refuses(x, "10 -1", Check.ARGUMENT, () -> x.rot(-1));
         c.refuses(x, "10 1000", Check.ARGUMENT, () -> x.rot(1000));
         c.refuses(x, "10 least", Check.ARGUMENT, () -> x.rot(Integer.MIN_VALUE));

@@ -23,15 +23,8 @@ public final class QuestionsTest {
         c.finish();
     }
 
-    private static Disc opened(int mode, int sectors) {
-        Disc x = new Disc();
-        x.session();
-        x.track(mode, sectors);
-        return x;
-    }
-
     private static void sectors() {
-        Disc x = opened(1, 3);
+        Disc x = Disc.opened(1, 3);
         x.write(0, 5);
         x.starve(0);
         c.due("17 of no TRACK: LEAD", -1, x.ofSector(3, 0));
@@ -60,7 +53,7 @@ public final class QuestionsTest {
 
     /** The numbers were reckoned by another program, bit by bit. */
     private static void marks() {
-        Disc x = opened(1, 9);
+        Disc x = Disc.opened(1, 9);
         long[] nibbles = {0, 0, 123456789L, 0x123456789L, 0xFEDCBA987L};
         int[] turns = {37, 39, 34, 36, 39};
         int[] dsv = {-4, 2, -2, -16, -4};
@@ -81,7 +74,7 @@ public final class QuestionsTest {
     }
 
     private static void sectorRefuses() {
-        Disc x = opened(1, 3);
+        Disc x = Disc.opened(1, 3);
         c.refuses(x, "17 -1", Check.INDEX, () -> x.ofSector(-1, 0));
         c.refuses(x, "17 240", Check.INDEX, () -> x.ofSector(240, 0));
         c.refuses(x, "17 240 ahead of what", Check.INDEX, () -> x.ofSector(240, 9));
@@ -102,7 +95,7 @@ public final class QuestionsTest {
     }
 
     private static void nibblesComeOut() {
-        Disc x = opened(1, 4);
+        Disc x = Disc.opened(1, 4);
         c.due("18 BLANK", -1, x.nibbles(6, false));
         c.due("18 BLANK, MENDED", -1, x.nibbles(6, true));
         x.write(0, 0x123456789L);
@@ -124,7 +117,7 @@ public final class QuestionsTest {
         c.due("18 MENDED and LOST", -1, x.nibbles(7, true));
         c.due("18 LOST, not MENDED: the NIBBLE 0 and MASKS", 0xC00B00607L, x.nibbles(7, false));
         c.due("18 MENDING is on a copy", 8, x.ofSector(7, 2));
-        Disc y = opened(1, 4);
+        Disc y = Disc.opened(1, 4);
         y.write(0, 0);
         y.rot(6);
         y.rot(11);
@@ -133,13 +126,13 @@ public final class QuestionsTest {
     }
 
     private static void nibblesRefuse() {
-        Disc x = opened(1, 4);
+        Disc x = Disc.opened(1, 4);
         c.refuses(x, "18 -1", Check.INDEX, () -> x.nibbles(-1, true));
         c.refuses(x, "18 240", Check.INDEX, () -> x.nibbles(240, false));
     }
 
     private static void places() {
-        Disc x = opened(1, 4);
+        Disc x = Disc.opened(1, 4);
         c.due("19 BLANK", -1, x.place(6, 0));
         x.write(0, 0);
         c.due("19 MASK 0", 13, x.place(6, 0));
@@ -192,7 +185,7 @@ public final class QuestionsTest {
     }
 
     private static void files() {
-        Disc x = opened(1, 5);
+        Disc x = Disc.opened(1, 5);
         x.write(0, 1);
         x.write(0, 2);
         x.file(3, 6, 4);
@@ -233,7 +226,7 @@ public final class QuestionsTest {
     }
 
     private static void plays() {
-        Disc x = opened(0, 6);
+        Disc x = Disc.opened(0, 6);
         x.write(0, 0);
         x.write(0, MOST);
         x.starve(0);
@@ -249,7 +242,7 @@ public final class QuestionsTest {
     }
 
     private static void playsNeighbours() {
-        Disc x = opened(0, 4);
+        Disc x = Disc.opened(0, 4);
         x.starve(0);
         x.write(0, MOST);
         x.write(0, 0);
@@ -267,20 +260,20 @@ public final class QuestionsTest {
     }
 
     private static void playRefuses() {
-        Disc x = opened(0, 3);
+        Disc x = Disc.opened(0, 3);
         x.track(1, 3);
         c.refuses(x, "22 -1", Check.INDEX, () -> x.play(-1));
         c.refuses(x, "22 240", Check.INDEX, () -> x.play(240));
         c.refuses(x, "22 LEAD", Check.ARGUMENT, () -> x.play(0));
         c.refuses(x, "22 GAP", Check.ARGUMENT, () -> x.play(9));
         c.refuses(x, "22 DATA", Check.ARGUMENT, () -> x.play(11));
-        Disc y = opened(0, 3);
+        Disc y = Disc.opened(0, 3);
         y.close(0);
         c.refuses(y, "22 given back", Check.ARGUMENT, () -> y.play(6));
     }
 
     private static void many() {
-        Disc x = opened(1, 9);
+        Disc x = Disc.opened(1, 9);
         for (int k = 0; k < 6; k++) {
             x.write(0, k);
         }
@@ -301,7 +294,7 @@ public final class QuestionsTest {
     }
 
     private static void manyRefuses() {
-        Disc x = opened(1, 3);
+        Disc x = Disc.opened(1, 3);
         c.refuses(x, "23 -1", Check.ARGUMENT, () -> x.many(-1));
         c.refuses(x, "23 13", Check.ARGUMENT, () -> x.many(13));
         c.refuses(x, "23 least", Check.ARGUMENT, () -> x.many(Integer.MIN_VALUE));

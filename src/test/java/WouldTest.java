@@ -6,7 +6,6 @@ public final class WouldTest {
         mendsErased();
         mendsRowsFirst();
         sumsInDataAlone();
-        sumsModulo251();
         mendRefuses();
         digests();
         c.finish();
@@ -68,41 +67,6 @@ public final class WouldTest {
         c.due("25 it fits otherwise", 0, data.wouldMend(6, 0));
     }
 
-    /** ROT can make any PLACE of the SECTOR 60 any value, so its BLOCK may become another EVEN one. */
-    private static Disc turnedInto(long nibbles) {
-        Disc x = new Disc();
-        x.session();
-        x.track(1, 40);
-        x.track(1, 40);
-        while (x.ofSector(60, 1) == 0) {
-            x.write(1, 0);
-        }
-        Disc other = new Disc();
-        other.session();
-        other.track(1, 40);
-        other.track(1, 40);
-        while (other.ofSector(60, 1) == 0) {
-            other.write(1, nibbles);
-        }
-        for (int place = 0; place < 16; place++) {
-            int by = x.place(60, place) ^ other.place(60, place);
-            for (int r = 0; r < 240; r++) {
-                if ((60 * 7 + r) % 16 == place && r % 15 + 1 == by) {
-                    x.rot(r);
-                }
-            }
-        }
-        return x;
-    }
-
-    private static void sumsModulo251() {
-        Disc fits = turnedInto(0xFE0001000L);
-        c.due("25 another one comes out", 0xFE0001000L, fits.nibbles(60, true));
-        c.due("25 9 times 15, 8 times 14 and 4 are 251", 0, fits.wouldMend(60, 0));
-        Disc fitsNot = turnedInto(0xFE0001001L);
-        c.due("25 252 is not 0", 1, fitsNot.wouldMend(60, 0));
-    }
-
     private static void mendRefuses() {
         Disc x = written(1);
         c.refuses(x, "25 -1", Check.INDEX, () -> x.wouldMend(-1, 0));
@@ -116,7 +80,7 @@ public final class WouldTest {
     private static void digests() {
         c.due("26 a new one", -8771326024716431228L, new Disc().digest());
         Disc x = written(1);
-        c.due("26 WRITTEN", summed(x), x.digest());
+        c.due("26 WRITTEN", x.reckonedDigest(), x.digest());
         x.file(2, 6, 3);
         x.rot(0);
         x.scratch(1, 1, 60, 359);
@@ -128,38 +92,11 @@ public final class WouldTest {
         x.session();
         x.track(0, 2);
         x.write(1, 77);
-        c.due("26 LOST, told and READ", summed(x), x.digest());
+        c.due("26 LOST, told and READ", x.reckonedDigest(), x.digest());
         c.due("26 nothing is changed", x.digest(), x.digest());
         long before = x.digest();
         x.tray(true);
         c.due("26 another state", false, before == x.digest());
     }
 
-    private static long summed(Disc x) {
-        long d = 9600;
-        for (int what = 0; what <= 12; what++) {
-            d = d * 31 + x.many(what);
-        }
-        for (int t = 0; t < x.many(1); t++) {
-            for (int what = 0; what <= 7; what++) {
-                d = d * 31 + x.ofTrack(t, what);
-            }
-        }
-        int next = x.many(2);
-        for (int s = 0; s < next; s++) {
-            boolean isWritten = x.ofSector(s, 1) == 1;
-            for (int what = 2; what <= 6 && isWritten; what++) {
-                d = d * 31 + x.ofSector(s, what);
-            }
-            d = isWritten ? d * 31 + x.nibbles(s, true) : d;
-        }
-        for (int f = 0; f < 10; f++) {
-            for (int s = 0; s < x.many(0); s++) {
-                for (int what = 0; what <= 2; what++) {
-                    d = d * 31 + x.ofFile(f, s, what);
-                }
-            }
-        }
-        return d * 31 + (long) x.clock();
-    }
 }

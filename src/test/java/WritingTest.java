@@ -82,32 +82,17 @@ public final class WritingTest {
         c.refuses(starved, "2 no CALIBRATION", Check.STATE, starved::session);
     }
 
-    private static Disc endedAt(int next) {
-        Disc x = new Disc();
-        x.session();
-        for (int t = 0; t < 5; t++) {
-            x.track(0, 40);
-        }
-        x.track(1, next - 2 - 214 - 2);
-        for (int t = 0; t < 5; t++) {
-            x.close(t);
-        }
-        while (x.ofTrack(5, 4) < x.ofTrack(5, 3)) {
-            x.write(5, 0);
-        }
-        x.close(5);
-        c.due("7 end at", next, x.end());
-        return x;
-    }
-
     private static void sessionNeedsFourSectors() {
-        Disc fits = endedAt(236);
+        Disc fits = Disc.filledTo(234);
+        c.due("7 end at", 236, fits.end());
         c.due("2 just 4 SECTORS are left", 1, fits.session());
         c.due("2 NEXT is at the end", 240, fits.many(2));
         c.refuses(fits, "7 none is left for the END", Check.STATE, fits::end);
-        Disc full = endedAt(237);
+        Disc full = Disc.filledTo(235);
+        c.due("7 end at", 237, full.end());
         c.refuses(full, "2 3 SECTORS are left", Check.STATE, full::session);
-        Disc none = endedAt(240);
+        Disc none = Disc.filledTo(238);
+        c.due("7 end at", 240, none.end());
         c.refuses(none, "2 no SECTOR is left", Check.STATE, none::session);
     }
 
